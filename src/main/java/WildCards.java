@@ -61,8 +61,8 @@ public final class WildCards {
     }
 
     public boolean fitsPart(int from, int n) {
-        // The sum from + n could wrap around, the difference can't.
-        if (from < 0 || n < 0 || from > letterCount || n > letterCount - from) {
+        // The sum from + n could wrap around, the difference can't; it is below 0 behind the word.
+        if (from < 0 || n < 0 || n > letterCount - from) {
             return false;
         }
         return lettersFit(from, from + n);

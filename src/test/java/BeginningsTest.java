@@ -34,6 +34,8 @@ public final class BeginningsTest {
         look("?".repeat(400), "a".repeat(400), 1);
         look("*a".repeat(200), "a".repeat(400), 201);
         look("?*", "\0\u00ff\u0080", 3);
+        look("*\u00ff", "\u00ff\u007f\0\u00ff", 2);
+        look("*[\u0080-\u00ff]", "\u0080\u007f\0\u00ffa", 2);
     }
 
     private static void itChangesNothing() {

@@ -6,29 +6,31 @@ import java.util.Random;
  * they came and tries every parting of the word. The runs are the same each time.
  */
 public final class PlainModelTest {
-    private static final String COMMON = "ab-]^[\\*?c";
+    // The runs take turns: patterns with brackets of all sorts, and long words that often fit.
+    private static final String[] COMMON = {"ab-]^[\\*?c\u0080\u00ff", "aaaab*?"};
     private static final int RUNS = 400;
     private static final int CALLS = 512;
 
     public static void main(String[] args) {
         for (int run = 0; run < RUNS; run++) {
-            aRun(new Random(run), "run " + run + ", ");
+            aRun(new Random(run), COMMON[run % 2], "run " + run + ", ");
         }
         Checks.finish();
     }
 
-    private static void aRun(Random random, String name) {
+    private static void aRun(Random random, String common, String name) {
         WildCards x = new WildCards();
         Model model = new Model();
         for (int call = 0; call < CALLS; call++) {
-            aCall(random, x, model, name + "call " + call + ": ");
+            aCall(random, common, x, model, name + "call " + call + ": ");
         }
     }
 
-    private static void aCall(Random random, WildCards x, Model model, String name) {
+    private static void aCall(Random random, String common, WildCards x, Model model, String name) {
         switch (random.nextInt(12)) {
             case 0, 1, 2 -> {
-                int[] n = random.ints(5, 0, 1).map(zero -> number(random)).toArray();
+                int[] n = new int[5];
+                Arrays.setAll(n, i -> number(random, common));
                 Checks.due(name + "feed", x.feed(n[0], n[1], n[2], n[3], n[4]), model.feed(n));
             }
             case 3, 4 -> {
@@ -48,10 +50,10 @@ public final class PlainModelTest {
         }
     }
 
-    private static int number(Random random) {
+    private static int number(Random random, String common) {
         int number = 0;
         for (int i = 0; i < 4; i++) {
-            int b = random.nextInt(20) == 0 ? random.nextInt(256) : COMMON.charAt(random.nextInt(COMMON.length()));
+            int b = random.nextInt(20) == 0 ? random.nextInt(256) : common.charAt(random.nextInt(common.length()));
             number = number << 8 | b;
         }
         return number;
