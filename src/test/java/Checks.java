@@ -3,14 +3,21 @@ import java.nio.charset.StandardCharsets;
 /** What the tests share: counting wrong answers, and texts as bytes on the tape. */
 final class Checks {
     private static int wrong = 0;
+    private static String sentence = "";
 
     private Checks() {
+    }
+
+    /** The document's sentence that the next checks are of, or "". */
+    static void about(String words) {
+        sentence = words;
     }
 
     static void due(String what, Object got, Object want) {
         if (!got.equals(want)) {
             wrong++;
-            System.out.println(what + " answered " + got + ", due is " + want);
+            System.out.println(what + " answered " + got + ", due is " + want
+                    + (sentence.isEmpty() ? "" : " (\"" + sentence + "\")"));
         }
     }
 
@@ -20,6 +27,15 @@ final class Checks {
         if (wrong != 0) {
             System.exit(1);
         }
+    }
+
+    /** All 256 bytes, from 0 to 255. */
+    static String allBytes() {
+        StringBuilder all = new StringBuilder();
+        for (char c = 0; c < 256; c++) {
+            all.append(c);
+        }
+        return all.toString();
     }
 
     static byte[] bytesOf(String text) {
@@ -51,6 +67,19 @@ final class Checks {
         setPattern(x, pattern);
         setWord(x, word);
         return x;
+    }
+
+    /** An object whose tape has n bytes 'a', 0 to 400. */
+    static WildCards withTape(int n) {
+        WildCards x = new WildCards();
+        putOnTape(x, bytesOf("a".repeat(n)));
+        return x;
+    }
+
+    static void fits(String pattern, String word, boolean want) {
+        WildCards x = with(pattern, word);
+        due("fits() of \"" + word + "\" to \"" + pattern + "\"", x.fits(), want);
+        due("fits() of \"" + word + "\" to \"" + pattern + "\" again", x.fits(), want);
     }
 
     /** Four bytes as feed wants them; what lies behind the last byte is filled with '#'. */
